@@ -9,6 +9,7 @@ public final class BeachTest {
         promise2Refused();
         promise3();
         promise3Bounds();
+        promise3Now();
         promise4();
         promise5Finds();
         promise5Others();
@@ -125,6 +126,35 @@ public final class BeachTest {
         RingInSand flat = Due.ruled("deep depth+4;sea 0;shine 100;");
         Due.is("told(2, 2), depth is 0 of deep", flat.told(2, 2), 4);
         Due.is("told(2, 2) again", flat.told(2, 2), 4);
+        Due.is("told(3, 2), depth is 0 of deep", flat.told(3, 2), 4);
+    }
+
+    /** What was told for one HOUR, TREADS, RULE is not what is told for another. */
+    private static void promise3Now() {
+        RingInSand x = new RingInSand();
+        x.set(3, 0, 1);
+        Due.is("told(9, 2) at 1", x.told(9, 2), 1);
+        RingInSand y = Due.ruled("deep trod;sea trod=98;shine hour;");
+        for (int hour = 0; hour < 24; hour++) {
+            for (int treads = 0; treads < 3; treads++) {
+                y.set(3, 0, hour);
+                y.set(1, 0, treads);
+                Due.is("told(0, 2)", y.told(0, 2), treads);
+                Due.is("told(0, 4)", y.told(0, 4), hour);
+            }
+        }
+        for (int treads = 94; treads < 100; treads++) {
+            y.force(0);
+            y.set(1, 0, treads);
+            Due.is("told(0, 2) by text 0", y.told(0, 2), treads);
+            Due.is("told(0, 3) by text 0", y.told(0, 3), 0);
+            Due.is("told(0, 4) by text 0", y.told(0, 4), 0);
+            y.force(1);
+            Due.is("told(0, 3) by text 1", y.told(0, 3), treads == 98 ? 1 : 0);
+            y.set(1, 0, 99 - treads);
+            Due.is("told(0, 2) by text 1", y.told(0, 2), 99 - treads);
+            Due.is("told(0, 4) by text 1", y.told(0, 4), 23);
+        }
     }
 
     private static void promise4() {

@@ -8,6 +8,7 @@ public final class TextsTest {
         promise6();
         promise7Read();
         promise7Tokens();
+        promise7Long();
         promise7Faults();
         promise7Open();
         promise7Room();
@@ -88,6 +89,58 @@ public final class TextsTest {
         faults("deep nott 1" + REST, 5);
         faults("deep 1 andd 1" + REST, 7);
         faults("deep 1 an 1" + REST, 7);
+        faults("deep yz" + REST, 5);
+        faults("deep ya" + REST, 5);
+        reads("deep 09+90" + REST);
+        // no byte below 10 is taken for a TOKEN
+        for (int letter = 0; letter < 10; letter++) {
+            char c = (char) letter;
+            faults(c + " 1" + REST, 0);
+            faults("deep " + c + REST, 5);
+            faults("deep 1 " + c + " 1" + REST, 7);
+            faults("deep 1;" + c + " 0;shine 0;", 7);
+            faults("deep 1;sea 0;" + c + " 0;", 13);
+            faults("deep 1" + REST + c, 21);
+        }
+    }
+
+    /** A TEXT of so many bytes, whose sea is where x is i. */
+    private static String longText(int size, int i) {
+        StringBuilder s = new StringBuilder("deep 0;sea x=").append(i).append(";shine 0");
+        s.insert(6, "+1".repeat((size - s.length() - 1 - 2 * i) / 2));
+        s.append("+1".repeat((size - s.length() - 1) / 2)).append(';');
+        return " ".repeat(size - s.length()) + s;
+    }
+
+    private static void tellsLong(RingInSand x, int text, String s) {
+        int deep = s.substring(0, s.indexOf(";sea")).split("[+]").length - 1;
+        int shine = s.substring(s.indexOf("shine")).split("[+]").length - 1;
+        x.force(text);
+        Due.is("told(0, 2) of " + s, x.told(0, 2), deep);
+        Due.is("told(0, 4) of " + s, x.told(0, 4), shine);
+        Due.is("under(0) of " + s, x.under(0), 1 << text);
+    }
+
+    /** THE TAPE full of TOKENS, and five TEXTS that are long. */
+    private static void promise7Long() {
+        RingInSand x = new RingInSand();
+        for (int i = 1; i <= 5; i++) {
+            Due.fed(x, longText(90, i));
+            Due.is("text() " + i, x.text(), i);
+        }
+        for (int i = 1; i <= 5; i++) {
+            tellsLong(x, i, longText(90, i));
+        }
+        RingInSand most = Due.fed(new RingInSand(), longText(160, 1));
+        Due.is("count(5)", most.count(5), 160);
+        Due.is("text() of 160 bytes", most.text(), 1);
+        tellsLong(most, 1, longText(160, 1));
+        faults("(".repeat(160), 0);
+        faults("deep " + "1+".repeat(77) + "1", 160);
+        faults("deep " + "1+".repeat(77) + ";", 159);
+        faults("deep " + " ".repeat(155), 160);
+        faults("deep " + "x".repeat(155), 5);
+        faults("deep " + "1".repeat(155), 5);
     }
 
     private static void promise7Faults() {

@@ -49,6 +49,13 @@ public final class WhereTest {
         Due.is("likely(7, 1)", x.likely(7, 1), 48999950);
         x.set(2, 0, 999999);
         Due.is("likely(7, 1)", x.likely(7, 1), 49);
+        RingInSand one = new RingInSand();
+        one.set(0, 3, 1);
+        Due.is("likely(3, 0), 1 of 1", one.likely(3, 0), 1);
+        Due.is("likely(3, 1), 1 of 1", one.likely(3, 1), 1);
+        Due.is("likely(4, 0), 0 of 1", one.likely(4, 0), 0);
+        Due.is("drawn(5), 1 of 1", one.drawn(5), 3);
+        Due.is("most(0), 1 of 1", one.most(0), 3);
     }
 
     private static void promise16() {
@@ -82,6 +89,8 @@ public final class WhereTest {
         x.set(0, 30, 6);
         Due.is("most(0), of like ones the first", x.most(0), 9);
         Due.is("most(1)", x.most(1), 94);
+        x.set(0, 0, 7);
+        Due.is("most(0)", x.most(0), 0);
         int[] refused = {-1, 2, MIN, MAX};
         for (int r : refused) {
             Due.is("most(" + r + ")", x.most(r), -2);
@@ -124,6 +133,8 @@ public final class WhereTest {
         Due.is("drowned(1) at 19, not the HOURS ahead", x.drowned(1), 19);
         x.set(3, 0, 0);
         Due.is("drowned(1) at 0", x.drowned(1), 16);
+        x.set(3, 0, 15);
+        Due.is("drowned(1) at 15, the HOUR behind", x.drowned(1), 16);
         RingInSand late = Due.ruled("deep 0;sea hour=23;shine 0;");
         late.set(0, 3, 1);
         Due.is("drowned(1), 23 is with them", late.drowned(1), 23);
@@ -166,6 +177,12 @@ public final class WhereTest {
         rim.seen(0, 2);
         Due.is("told(15, 0), 16 is not beside it", rim.told(15, 0), 2);
         Due.is("told(16, 0)", rim.told(16, 0), 2);
+        Due.laid(rim, 0, 0, 30);
+        rim.seen(0, 2);
+        Due.is("told(31, 0), the last of a row is beside 30", rim.told(31, 0), 1);
+        Due.laid(rim, 0, 0, 33);
+        rim.seen(0, 2);
+        Due.is("told(32, 0), the first of a row is beside 33", rim.told(32, 0), 1);
         RingInSand much = new RingInSand();
         much.set(0, 9, 999990);
         much.set(0, 10, 999998);
@@ -338,6 +355,15 @@ public final class WhereTest {
         Due.is("drawn(0), 771 are not more than 771", x.drawn(0), 46);
         x.set(0, 3, 772);
         Due.is("drawn(0), 772 are", x.drawn(0), 3);
+        RingInSand even = new RingInSand();
+        for (int c = 0; c < 48; c++) {
+            even.set(0, c, 1);
+        }
+        even.set(2, 0, 2);
+        for (int seed = -20; seed < 60; seed++) {
+            long rest = (((seed * 1103515245L + 12345L) & 0xffffffffL) >> 4) % 50;
+            Due.is("drawn(" + seed + ")", even.drawn(seed), rest < 48 ? rest : -1);
+        }
     }
 
     private static void promise25() {
@@ -366,6 +392,11 @@ public final class WhereTest {
         Due.is("foundBy(7, 20), it is in 3 always", x.foundBy(7, 20), 20);
         Due.is("foundBy(7, 13)", x.foundBy(7, 13), 13);
         Due.is("told(3, 0), in thought alone", x.told(3, 0), 700);
+        RingInSand once = Due.ruled("deep trod*99;sea 0;shine 50;");
+        once.looker(3, 0);
+        once.set(0, 3, 700);
+        Due.is("planned(1), it is looked at once", once.planned(1), -1);
+        Due.is("foundBy(7, 20)", once.foundBy(7, 20), 20);
     }
 
     private static void promise26And27() {
