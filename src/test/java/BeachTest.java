@@ -150,6 +150,9 @@ public final class BeachTest {
             Due.is("told(0, 3) by text 0", y.told(0, 3), 0);
             Due.is("told(0, 4) by text 0", y.told(0, 4), 0);
             y.force(1);
+            y.set(1, 0, treads - 1);
+            Due.is("told(0, 2) by text 1", y.told(0, 2), treads - 1);
+            y.set(1, 0, treads);
             Due.is("told(0, 3) by text 1", y.told(0, 3), treads == 98 ? 1 : 0);
             y.set(1, 0, 99 - treads);
             Due.is("told(0, 2) by text 1", y.told(0, 2), 99 - treads);

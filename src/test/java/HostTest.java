@@ -54,10 +54,18 @@ public final class HostTest {
         }
         Due.is("cell(0, -1, 0), missing", x.cell(0, -1, 0), -11);
         x.sheet(0, 0, 3);
-        int[] outside = {-1, 3, MIN, MAX};
+        Due.laid(x, 0, 0, 7, 8, 9);
+        int[] outside = {-1, 3, 40, MIN, MAX};
         for (int i : outside) {
             Due.is("cell(0, " + i + ", 0)", x.cell(0, i, 0), -12);
         }
+        shows(x, 0, 7, 8, 9);
+        Due.is("sheet(0, 0, -1)", x.sheet(0, 0, -1), -14);
+        Due.is("sheet(0, 0, 41)", x.sheet(0, 0, 41), -2);
+        Due.is("sheet(0, 3, 1)", x.sheet(0, 3, 1), -2);
+        shows(x, 0, 7, 8, 9);
+        Due.is("cell(0, 1, 6)", x.cell(0, 1, 6), 1);
+        shows(x, 0, 7, 6, 9);
         // of bytes, shorts the lowest 8, 16 bits
         x.sheet(0, 0, 1);
         x.sheet(1, 1, 1);
