@@ -127,6 +127,11 @@ public final class BeachTest {
         Due.is("told(2, 2), depth is 0 of deep", flat.told(2, 2), 4);
         Due.is("told(2, 2) again", flat.told(2, 2), 4);
         Due.is("told(3, 2), depth is 0 of deep", flat.told(3, 2), 4);
+        RingInSand trod = Due.ruled("deep depth+4;sea depth;shine trod*10+depth;");
+        trod.set(1, 5, 3);
+        Due.is("told(5, 2), depth is not trod", trod.told(5, 2), 4);
+        Due.is("told(5, 3)", trod.told(5, 3), 0);
+        Due.is("told(5, 4)", trod.told(5, 4), 34);
     }
 
     /** What was told for one HOUR, TREADS, RULE is not what is told for another. */
@@ -142,6 +147,12 @@ public final class BeachTest {
                 Due.is("told(0, 2)", y.told(0, 2), treads);
                 Due.is("told(0, 4)", y.told(0, 4), hour);
             }
+        }
+        for (int hour = 20; hour < 24; hour++) {
+            y.set(3, 0, hour);
+            y.set(1, 0, 23 - hour);
+            Due.is("told(0, 2)", y.told(0, 2), 23 - hour);
+            Due.is("told(0, 4)", y.told(0, 4), hour);
         }
         for (int treads = 94; treads < 100; treads++) {
             y.force(0);

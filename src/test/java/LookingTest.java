@@ -271,6 +271,13 @@ public final class LookingTest {
         for (int r : refused) {
             Due.is("giveUp(" + r + ")", x.giveUp(r), -2);
         }
+        // of an earlier PLAN nothing is left
+        x.set(1, 0, 50);
+        x.set(1, 1, 50);
+        Due.is("plan(20, 1)", x.plan(20, 1), 0);
+        Due.is("giveUp(1)", x.giveUp(1), 0);
+        Due.is("giveUp(0)", x.giveUp(0), 0);
+        Due.is("planned(0)", x.planned(0), -1);
         // a later GAIN may be above one ahead of it: SPADE finds more when it lies deeper
         RingInSand y = Due.ruled("deep trod*10;sea 0;shine 0;");
         y.looker(4, 0);

@@ -52,6 +52,13 @@ public final class TextsTest {
         Due.fed(x, "deep 2" + REST);
         Due.is("text()", x.text(), 2);
         Due.is("text() of an empty tape", x.text(), -100);
+        // nothing of an earlier tape is read behind the end
+        Due.is("text()", Due.fed(x, "deepxx").text(), -100);
+        Due.is("text()", Due.fed(x, "deep").text(), -104);
+        Due.is("text()", Due.fed(x, "deep 12345").text(), -105);
+        Due.is("text()", Due.fed(x, "deep 1").text(), -106);
+        Due.is("text()", Due.fed(x, "deep 3" + REST + "x").text(), -121);
+        Due.is("text()", Due.fed(x, "deep 3" + REST).text(), 3);
     }
 
     private static void reads(String letters) {
@@ -136,6 +143,7 @@ public final class TextsTest {
         Due.is("text() of 160 bytes", most.text(), 1);
         tellsLong(most, 1, longText(160, 1));
         faults("(".repeat(160), 0);
+        faults(" ".repeat(159) + "$", 159);
         faults("deep " + "1+".repeat(77) + "1", 160);
         faults("deep " + "1+".repeat(77) + ";", 159);
         faults("deep " + " ".repeat(155), 160);
@@ -185,6 +193,20 @@ public final class TextsTest {
         faults("deep 1);", 6);
         faults("deep ();", 6);
         faults("deep (1)(2);", 8);
+        faults("deep 1 or;", 9);
+        faults("deep (1 or)" + REST, 10);
+        faults("deep (1 and)" + REST, 11);
+        faults("deep not;", 8);
+        faults("deep 1*;", 7);
+        faults("deep 1+;", 7);
+        faults("deep (1*)" + REST, 8);
+        faults("deep -;", 6);
+        faults("deep (1<)" + REST, 8);
+        faults("deep (not)" + REST, 9);
+        faults("deep 1 shine 2" + REST, 7);
+        faults("deep 1 sea 2" + REST, 7);
+        faults("deep 1;sea 0;or 0;", 13);
+        faults("deep 1;sea 0;sea 0;", 13);
         faults("deep 1 q 12345 $;", 7);
         faults("deep 1 $ q;", 7);
         faults("deep 12345 $;", 5);

@@ -138,6 +138,9 @@ public final class WhereTest {
         RingInSand late = Due.ruled("deep 0;sea hour=23;shine 0;");
         late.set(0, 3, 1);
         Due.is("drowned(1), 23 is with them", late.drowned(1), 23);
+        RingInSand never = Due.ruled("deep 0;sea hour=24 or hour=0;shine 0;");
+        never.set(0, 3, 1);
+        Due.is("drowned(1), there is no HOUR 24, and 0 is not behind 23", never.drowned(1), 12);
         RingInSand sun = Due.ruled("deep 0;sea sun=50 and trod=4;shine 0;");
         sun.set(0, 3, 1);
         sun.set(1, 3, 4);
@@ -392,6 +395,15 @@ public final class WhereTest {
         Due.is("foundBy(7, 20), it is in 3 always", x.foundBy(7, 20), 20);
         Due.is("foundBy(7, 13)", x.foundBy(7, 13), 13);
         Due.is("told(3, 0), in thought alone", x.told(3, 0), 700);
+        RingInSand none = new RingInSand();
+        none.set(0, 0, 700);
+        Due.is("foundBy(7, 20), no LOOKER", none.foundBy(7, 20), 0);
+        RingInSand was = new RingInSand();
+        was.looker(0, 0);
+        was.set(0, 3, 700);
+        Due.is("foundBy(7, 20)", was.foundBy(7, 20), 20);
+        was.set(1, 3, 50);
+        Due.is("foundBy(7, 20), it is looked at no more", was.foundBy(7, 20), 0);
         RingInSand once = Due.ruled("deep trod*99;sea 0;shine 50;");
         once.looker(3, 0);
         once.set(0, 3, 700);
