@@ -14,6 +14,10 @@ final class Due {
         }
     }
 
+    static int asked() {
+        return asked;
+    }
+
     static void holds(String what, boolean so) {
         is(what, so ? 1 : 0, 1);
     }
